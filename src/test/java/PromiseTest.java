@@ -140,6 +140,38 @@ public final class PromiseTest {
         due("its error", x.parseError(), 1);
         due("its position", x.errorPosition(), 0);
         due("the airport stays", x.bags(), 1);
+        loadAgain();
+    }
+
+    /** Nothing of an airport is left in the next ones, in an object that keeps its rows. */
+    private static void loadAgain() {
+        String full = BASE.replace("bags 0 2 0", "bags 0 40 0;bags 5 9 1") + ";lane 4 5;shift 1 0 2 4;keep laps<1";
+        BaggageLoop x = new BaggageLoop();
+        for (int round = 0; round < 3; round++) {
+            Check.load(x, full);
+            x.advance(60);
+            x.breakMachine(1, 0, 99);
+            x.block(0, true);
+            x.stopLoop(99);
+            x.setHot(50);
+            x.timeToClear(200);
+            due("bags with states", x.stateOf(0) > 7 && x.lapsOf(0) + x.levelOf(0) > 0 && x.events() > 0, true);
+            Check.load(x, BASE);
+            due("events", x.events(), 0);
+            due("stoppedUntil", x.stoppedUntil(), 0);
+            due("brokenUntil", x.brokenUntil(1, 0), 0);
+            due("keeps", x.keeps(), 0);
+            due("lanes", x.lanes(), 1);
+            due("laneSize", x.laneSize(0), 0);
+            due("loopLoad", x.loopLoad(), 0);
+            due("waiting", x.waiting(1), 2);
+            due("levels and laps", x.levelOf(0) + x.lapsOf(0) + x.levelOf(2) + x.lapsOf(2), 0);
+            due("finishedAt", x.finishedAt(0), -1);
+            due("states", x.stateOf(0) * 100 + x.stateOf(2), 100);
+            due("timeToClear", x.timeToClear(50), 12);
+            due("advance", x.advance(12), 3);
+            due("events", x.events(), 5);
+        }
     }
 
     static void promise4() {
@@ -277,6 +309,8 @@ public final class PromiseTest {
         BaggageLoop x = loaded(BASE.replace("lane 2 3", "lane 6 1;lane 2 3"));
         x.advance(7);
         due("the second lane", x.laneOf(0), 1);
+        x.advance(2);
+        due("the second place", x.laneOf(1), 1);
     }
 
     static void promise16() {
@@ -388,6 +422,7 @@ public final class PromiseTest {
         for (int wrong : new int[] {-1, 0, 5, 2, 3, 4, MIN, MAX}) {
             fails("queueAt " + wrong + " 0", IOOBE, () -> x.queueAt(wrong, 0));
         }
+        fails("queueAt 5 0 with stored bags", IOOBE, () -> at(BASE, 9).queueAt(5, 0));
         // CLOSE, then the arrival, then the number: bags 3 and 4 close first, 2 arrives before 0 and 1.
         String text = "loop 10 0 5 level 1 99 0 level 1 1 0 level 1 1 0 hot 5 seed 1"
                 + ";flight 3 10 40;flight 7 0 30;bags 2 2 0;bags 1 1 0;bags 2 2 1;shift 1 0 0 1999";
@@ -567,6 +602,11 @@ public final class PromiseTest {
         x.offload(1);
         due("offloaded bags do not count", x.percentile(0, 100), 11);
         due("short bags do not count", at(LATE, 9).percentile(0, 100), -1);
+        // Times 9 and 8, in the order of the numbers.
+        BaggageLoop w = at("loop 10 0 5 level 4 1 0 level 1 1 0 level 1 1 0 hot 5 seed 1;flight 7 0 40;bags 0 1 0"
+                + ";bags 5 1 0", 30);
+        due("percentile 50 of 9 and 8", w.percentile(0, 50), 8);
+        due("percentile 51 of 9 and 8", w.percentile(0, 51), 9);
         // Three times 9, 10, 11: the ranks are 1 up to 33 percent, 2 up to 66.
         String text = "loop 10 0 5 level 4 1 0 level 1 1 0 level 1 1 0 hot 5 seed 1;flight 7 0 40;bags 0 3 0";
         BaggageLoop y = at(text, 30);
@@ -1020,6 +1060,8 @@ public final class PromiseTest {
         }
         wrongMachines("breakMachine", y, (z, level, machine) -> z.breakMachine(level, machine, 0));
         due("nothing changed", y.undoable(), 3);
+        due("for one tick", y.breakMachine(2, 0, 1), true);
+        due("until", y.brokenUntil(2, 0), 4);
     }
 
     static void promise60() {
@@ -1204,6 +1246,22 @@ public final class PromiseTest {
         x.advance(1);
         x.undo();
         due("undo leaves what is saved", x.restore(0), 7);
+        savedEvents();
+    }
+
+    /** What happened after an undo does not reach the events that were saved before. */
+    private static void savedEvents() {
+        BaggageLoop x = at(BASE, 12);
+        x.offload(2);
+        x.save(0);
+        x.undo();
+        x.offload(0);
+        due("another event", x.event(5, 2), 0);
+        x.restore(0);
+        due("the saved event", x.event(5, 2), 2);
+        x.advance(7);
+        x.undo();
+        due("the saved event", x.event(5, 0), 12);
     }
 
     // ---- the steps of a tick, where no promise has them alone
