@@ -742,7 +742,7 @@ public final class BaggageLoop {
         static final int NOT = 15;
         static final int AND = 16;
         static final int OR = 17;
-        // The shortest part of a test takes more than two bytes of the text.
+        // Each part of a test takes at least two bytes of the text.
         static final int MAX_PARTS = MAX_BYTES / 2;
 
         int count = 0;
