@@ -69,6 +69,10 @@ final class Check {
         return all.toString();
     }
 
+    int done() {
+        return done;
+    }
+
     void end() {
         System.out.println(done + " checks, " + wrong + " wrong");
         if (wrong > 0 || done == 0) {
