@@ -1111,7 +1111,9 @@ public final class BaggageLoop {
                 return;
             }
             int last = s.loop[length - 1];
-            System.arraycopy(s.loop, 0, s.loop, 1, length - 1);
+            for (int position = length - 1; position > 0; position--) {
+                s.loop[position] = s.loop[position - 1];
+            }
             s.loop[0] = last;
             int bag = at(s.loop, plan.entry);
             if (bag != NONE) {

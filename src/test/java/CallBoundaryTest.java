@@ -164,11 +164,10 @@ public final class CallBoundaryTest {
         BaggageLoop y = RICH.get();
         due("load", y.load(Airports.NEXT_TEXT.length()), 1);
         BaggageLoop same = Check.loaded(Airports.NEXT_TEXT);
-        for (Views.Probe probe : Views.PROBES) {
-            BaggageLoop again = RICH.get();
-            again.load(Airports.NEXT_TEXT.length());
-            BaggageLoop fresh = Check.loaded(Airports.NEXT_TEXT);
-            due("nothing is left", withoutTexts(probe.look(again)), withoutTexts(probe.look(fresh)));
+        for (String next : List.of(Airports.NEXT_TEXT, Airports.RICH_TEXT, Airports.BUSY_TEXT, FULL_TEXT)) {
+            replaces(RICH, next);
+            replaces(Airports.BUSY, next);
+            replaces(USED, next);
         }
         due("time", y.time(), 0);
         due("undoable", y.undoable(), 0);
@@ -217,6 +216,52 @@ public final class CallBoundaryTest {
             }
         }
     }
+
+    /** An object that has loaded a text cannot be told from a new one that has, whatever was in it before. */
+    private static void replaces(Supplier<BaggageLoop> before, String text) {
+        for (Views.Probe probe : Views.PROBES) {
+            String want = withoutTexts(probe.look(Check.loaded(text)));
+            BaggageLoop next = before.get();
+            next.loadedIn(1);
+            emptyBuffer(next);
+            due("load", Check.load(next, text), Check.loaded(text).bags());
+            due("nothing is left", withoutTexts(probe.look(next)), want);
+            // The object may use again what it has put aside, so that an older airport could come back.
+            BaggageLoop afterNext = before.get();
+            emptyBuffer(afterNext);
+            Check.load(afterNext, Airports.NEXT_TEXT);
+            Check.load(afterNext, text);
+            due("nothing of the one before is left", withoutTexts(probe.look(afterNext)), want);
+        }
+    }
+
+    private static void emptyBuffer(BaggageLoop x) {
+        spec.fails("load nothing", IAE, () -> x.load(0));
+    }
+
+    /** As many lines as there can be. */
+    private static final String FULL_TEXT = "loop 20 3 4 level 4 3 500 level 4 2 500 level 4 1 500 hot 99 seed 99;flight 0 40 90"
+            + ";flight 1 30 80;flight 2 20 70;flight 5 50 100;flight 6 60 99;flight 7 0 30;flight 8 0 20;flight 9 0 99"
+            + ";lane 10 5;lane 11 20;lane 12 1;lane 13 20;bags 0 20 0;bags 0 20 1;bags 1 20 2;bags 2 10 3;bags 3 10 7"
+            + ";bags 9 20 5;shift 1 1 0 9;shift 2 1 0 9;shift 3 1 0 9;shift 1 0 12 13;keep laps<1 and wait>20;keep load>18"
+            + ";keep time=7";
+
+    /** All lines and bags, everything changed, and all machines off shift and broken. */
+    private static final Supplier<BaggageLoop> USED = () -> {
+        BaggageLoop x = Check.loaded(FULL_TEXT.replace("0 9;", "0 1999;"));
+        x.advance(99);
+        for (int lane = 0; lane < 4; lane++) {
+            x.block(lane, true);
+        }
+        for (int level = 1; level <= 3; level++) {
+            for (int machine = 0; machine < 4; machine++) {
+                x.breakMachine(level, machine, 999);
+            }
+        }
+        x.stopLoop(999);
+        x.setHot(999);
+        return x;
+    };
 
     private static String withoutErrors(String view) {
         return view.replaceAll("(parseError|errorPosition)=-?\\d+ ", "");
@@ -410,6 +455,10 @@ public final class CallBoundaryTest {
         says("Returns the number of the lane; NONE if it is not stored.");
         inStates("laneOf", x -> x.laneOf(0), -1, -1, -1, -1, -1, -1, -1, -1, -1, 0, -1, -1, -1, -1);
         due("the fifth bag", lanes.laneOf(4), -1);
+        for (int bag = 0; bag < 30; bag++) {
+            int lane = bag == 0 ? 0 : bag <= 20 ? 1 : bag == 21 ? 2 : bag == 22 ? 3 : -1;
+            due("laneOf " + bag, FOUR_LANES.get().laneOf(bag), lane);
+        }
 
         promise(16);
         says("Returns after how many moves of the loop a bag stands at the position of its flight.");
@@ -603,6 +652,12 @@ public final class CallBoundaryTest {
             }
         }
         spec.refused("an empty queue", IOOBE, NO_BAGS, x -> x.queueAt(1, 0));
+        for (int state = 0; state < 14; state++) {
+            for (int queue : new int[] {-1, 0, 5, 6, 7}) {
+                BaggageLoop x = Airports.inState(state);
+                spec.fails("queue " + queue + " with a bag in state " + state, IOOBE, () -> x.queueAt(queue, 0));
+            }
+        }
     }
 
     private static void levelAndMachine(String name, Object... more) {
@@ -954,6 +1009,9 @@ public final class CallBoundaryTest {
         due("which is shorter", z.finishedAt(1) - 9 < z.finishedAt(0) - 1, true);
         says("- `flight`: number of the flight");
         calls.arguments(RICH, "percentile", Calls.index(3), Calls.number(1, 100));
+        // A bag that arrives at 0 begins with the tick to 1: it needs 5, bag 1 needs 4.
+        BaggageLoop falling = at("loop 10 0 5" + WIDE + ";flight 3 0 999;bags 0 1 0;bags 9 1 0", 40);
+        due("5 and 4", falling.percentile(0, 50) * 10 + falling.percentile(0, 51), 45);
         says("- `percent`: 1 to 100");
         due("1", RICH.get().percentile(2, 1), 9);
         due("100", RICH.get().percentile(2, 100), 9);

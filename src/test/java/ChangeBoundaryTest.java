@@ -146,6 +146,34 @@ public final class ChangeBoundaryTest {
                 x.restore(0);
             });
         }
+        // Levels, laps and the times of the ends go back, too.
+        for (int ticks : new int[] {1, 5, 20, 60}) {
+            spec.unchanged("ticks and undo", Airports.BUSY, x -> {
+                x.advance(ticks);
+                x.undo();
+            });
+            BaggageLoop x = Airports.BUSY.get();
+            String before = bags(x);
+            x.save(0);
+            x.advance(ticks);
+            due("ticks change something", bags(x).equals(before), false);
+            x.restore(0);
+            due("restored", bags(x), before);
+            BaggageLoop y = Airports.BUSY.get();
+            y.timeToClear(ticks);
+            due("a question leaves it", bags(y), before);
+        }
+        BaggageLoop off = at(THREE, 20);
+        off.offload(1);
+        due("finishedAt", off.finishedAt(1), 20);
+        off.save(0);
+        off.undo();
+        due("finishedAt before", off.finishedAt(1), 6);
+        off.offload(2);
+        due("another event", off.event(3, 2), 2);
+        off.restore(0);
+        due("the saved event", off.event(3, 2), 1);
+        due("finishedAt saved", off.finishedAt(1), 20);
         says("The methods that are documented as changes can be undone, the latest one first.");
         for (int start = 0; start < CHANGES.size(); start++) {
             BaggageLoop x = SOME.get();
@@ -176,6 +204,15 @@ public final class ChangeBoundaryTest {
         x.restore(0);
         return x;
     };
+
+    private static String bags(BaggageLoop x) {
+        StringBuilder text = new StringBuilder();
+        for (int bag = 0; bag < x.bags(); bag++) {
+            text.append(x.stateOf(bag)).append('/').append(x.lapsOf(bag)).append('/').append(x.levelOf(bag)).append('/')
+                    .append(x.finishedAt(bag)).append(' ');
+        }
+        return text.toString();
+    }
 
     private static String states(BaggageLoop x) {
         StringBuilder text = new StringBuilder();
@@ -234,13 +271,13 @@ public final class ChangeBoundaryTest {
 
     private static void questions() {
         says("A what-if question simulates a copy of the state; it changes nothing.");
-        for (Supplier<BaggageLoop> maker : List.of(Airports.FRESH, SOME, RICH)) {
+        for (Supplier<BaggageLoop> maker : List.of(Airports.FRESH, SOME, RICH, Airports.BUSY)) {
             for (int n : new int[] {1, 30, 500}) {
                 spec.unchanged("loadedIn " + n, maker, x -> x.loadedIn(n));
                 spec.unchanged("shortIn " + n, maker, x -> x.shortIn(n));
                 spec.unchanged("timeToClear " + n, maker, x -> x.timeToClear(n));
                 spec.unchanged("withoutLane " + n, maker, x -> x.withoutLane(0, n));
-                spec.unchanged("withoutLane " + n, maker, x -> x.withoutLane(1, n));
+                spec.unchanged("withoutLane " + n, maker, x -> x.withoutLane(x.lanes() - 1, n));
             }
             spec.unchanged("bestDelay 1", maker, x -> x.bestDelay(1, 1));
             spec.unchanged("bestDelay 200", maker, x -> x.bestDelay(0, 200));

@@ -165,6 +165,13 @@ public final class PartsBoundaryTest {
             }
             alarms(k);
         }
+        // Four machines in each level, so that a machine too many would be one of another level.
+        String four = "loop 10 0 5 level 4 A level 4 B level 4 C hot 0 seed 0;flight 3 900 999;bags 1 1 0";
+        for (int ticks = 1; ticks <= 4; ticks++) {
+            int t = ticks;
+            String text = four.replace("A", t + " 1000").replace("B", t + " 1000").replace("C", t + " 0");
+            states(t + " ticks in each level", text, t, 2, t + 1, 4, 2 * t, 4, 2 * t + 1, 6, 3 * t, 6, 3 * t + 1, 8);
+        }
     }
 
     /** Levels of one machine and one tick; those before a level send all bags on, the others send none. */

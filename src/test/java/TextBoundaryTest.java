@@ -438,6 +438,22 @@ public final class TextBoundaryTest {
         all += ";lane 20 1;lane 21 1;lane 22 1;lane 23 1" + ";shift 1 0 0 1".repeat(4) + ";keep load<1".repeat(3);
         BaggageLoop x = good(all);
         spec.due("all together", x.flights() * 100 + x.lanes() * 10 + x.keeps(), 843);
+        longTests();
+    }
+
+    /** The longest tests, one text after the other in one object. */
+    private static void longTests() {
+        BaggageLoop x = new BaggageLoop();
+        for (int round = 0; round < 8; round++) {
+            boolean want = round % 2 == 0;
+            StringBuilder text = new StringBuilder("loop 4 0 1" + LEVELS + ";flight 2 0 9;bags 0 1 0;keep time=0");
+            while (text.length() + 20 + 45 <= 1200) {
+                text.append("and ").append("not ".repeat(8)).append("time=0");
+            }
+            text.append(want ? "and time=0" : "and time=1");
+            spec.due("load", answer(x, text.toString(), text.length()), "loaded 0 -1");
+            spec.due("a long test in round " + round, x.isKept(0), want);
+        }
     }
 
     /** Units inside one another, a not or a bracket for each bit, and what is inside them all. */

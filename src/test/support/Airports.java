@@ -14,6 +14,10 @@ final class Airports {
     /** A text that stands in the input buffer meanwhile. */
     static final String NEXT_TEXT = "loop 4 0 1" + QUICK + ";flight 2 0 9;bags 0 1 0";
 
+    /** Bags that go round, are screened again and again, and are stored, loaded, short and rejected. */
+    static final String BUSY_TEXT = "loop 6 1 3 level 2 2 600 level 1 2 600 level 1 2 600 hot 5 seed 8;flight 0 40 50"
+            + ";flight 4 0 30;flight 5 9 12;lane 2 1;bags 0 4 0;bags 3 4 1;bags 5 2 2;bags 20 9 0;keep laps<2";
+
     private static final String BAD_TEXT = RICH_TEXT.replace("lane 5 3", "lane 5 21");
     private static final String CLOSING = "loop 10 0 5" + WIDE + ";flight 3 0 99;flight 4 0 98;lane 2 5;bags 1 1 0;bags 1 1 1";
 
@@ -21,6 +25,7 @@ final class Airports {
     static final Supplier<BaggageLoop> FAILED = Airports::failed;
     static final Supplier<BaggageLoop> FRESH = () -> Check.loaded(RICH_TEXT);
     static final Supplier<BaggageLoop> SOME = Airports::some;
+    static final Supplier<BaggageLoop> BUSY = Airports::busy;
     static final Supplier<BaggageLoop> RICH = Airports::rich;
 
     private Airports() {
@@ -61,6 +66,15 @@ final class Airports {
         x.advance(8);
         x.setHot(9);
         x.advance(5);
+        return x;
+    }
+
+    /** In the midst of things: two changes can be undone, and an earlier state is saved. */
+    private static BaggageLoop busy() {
+        BaggageLoop x = Check.loaded(BUSY_TEXT);
+        x.advance(4);
+        x.save(1);
+        x.advance(9);
         return x;
     }
 
