@@ -31,23 +31,50 @@ public final class CallBoundaryTest {
         newObject();
         append();
         load();
-        errors();
+        parseError();
+        errorPosition();
         buffered();
-        numbersOfBags();
-        ofBags();
-        ofLoop();
-        queues();
-        machines();
-        stops();
+        time();
+        bags();
+        stateOf();
+        flightOf();
+        arrivalOf();
+        positionOf();
+        lapsOf();
+        levelOf();
+        laneOf();
+        ticksTo();
+        finishedAt();
+        isHot();
+        isKept();
+        bagAt();
+        loopLoad();
+        waiting();
+        queueAt();
+        machineAt();
+        brokenUntil();
+        stoppedUntil();
         lanes();
+        laneSize();
+        laneAt();
+        keeps();
         flights();
-        countsOfFlights();
+        flightState();
+        openOf();
+        closeOf();
+        countOf();
+        missing();
+        loadedShare();
         percentile();
         worstFlight();
         events();
+        event();
         report();
+        reportByte();
         map();
+        mapByte();
         timetable();
+        timetableByte();
         String[] sections = new String[47];
         for (int i = 0; i < 47; i++) {
             sections[i] = "Promise " + (i + 1);
@@ -272,16 +299,19 @@ public final class CallBoundaryTest {
         return view.replaceAll("(reportByte|mapByte|timetableByte)=\\S+ ", "");
     }
 
-    private static void errors() {
-        String good = Airports.NEXT_TEXT;
-        String[] bad = {good + "#", good.replace("loop 4", "loop 3"), good + ";lane 2 1", good + ";keep load<1".repeat(4),
-            good.substring(0, good.indexOf(";")), good + ";keep " + "not ".repeat(10) + "load<1"};
-        int[] positions = {good.length(), 5, good.length() + 6, good.length() + 37, good.indexOf(";"), good.length() + 46};
+    private static final String GOOD = Airports.NEXT_TEXT;
+    /** A text for each of the codes 1 to 6, and the position of its error. */
+    private static final String[] BAD = {GOOD + "#", GOOD.replace("loop 4", "loop 3"), GOOD + ";lane 2 1",
+        GOOD + ";keep load<1".repeat(4), GOOD.substring(0, GOOD.indexOf(";")), GOOD + ";keep " + "not ".repeat(10) + "load<1"};
+    private static final int[] BAD_AT = {GOOD.length(), 5, GOOD.length() + 6, GOOD.length() + 37, GOOD.indexOf(";"),
+        GOOD.length() + 46};
+
+    private static void parseError() {
         promise(4);
         says("Returns the parse error code of the latest call of load that did not throw IndexOutOfBoundsException.");
         BaggageLoop x = new BaggageLoop();
         for (int code = 1; code <= 6; code++) {
-            String text = bad[code - 1];
+            String text = BAD[code - 1];
             spec.fails(text, IAE, () -> Check.load(x, text));
             due("code", x.parseError(), code);
             spec.fails("load too much", IOOBE, () -> x.load(1));
@@ -289,7 +319,7 @@ public final class CallBoundaryTest {
             due("the code stays", x.parseError(), code);
         }
         says("Returns the code 1 to 6; 0 if that call succeeded or if there was none.");
-        Check.load(x, good);
+        Check.load(x, GOOD);
         due("succeeded", x.parseError(), 0);
         spec.fails("load too much", IOOBE, () -> x.load(1));
         due("it stays", x.parseError(), 0);
@@ -297,24 +327,27 @@ public final class CallBoundaryTest {
         due("none", none.parseError(), 0);
         spec.fails("load too much", IOOBE, () -> none.load(1));
         due("none that counts", none.parseError(), 0);
+    }
 
+    private static void errorPosition() {
         promise(5);
+        BaggageLoop x = new BaggageLoop();
         says("Returns the position of the parse error of that call of load.");
         for (int code = 1; code <= 6; code++) {
-            String text = bad[code - 1];
+            String text = BAD[code - 1];
             spec.fails(text, IAE, () -> Check.load(x, text));
-            due("position of " + text, x.errorPosition(), positions[code - 1]);
+            due("position of " + text, x.errorPosition(), BAD_AT[code - 1]);
             spec.fails("load too much", IOOBE, () -> x.load(1));
-            due("the position stays", x.errorPosition(), positions[code - 1]);
+            due("the position stays", x.errorPosition(), BAD_AT[code - 1]);
         }
         says("Returns the position; NONE if parseError() is 0.");
         spec.fails("an error at 0", IAE, () -> Check.load(x, "#"));
         due("the position 0", x.errorPosition(), 0);
-        Check.load(x, good);
+        Check.load(x, GOOD);
         due("succeeded", x.errorPosition(), -1);
         due("there was no load", new BaggageLoop().errorPosition(), -1);
         BaggageLoop full = new BaggageLoop();
-        Check.fill(full, good + " ".repeat(1199 - good.length()) + ";");
+        Check.fill(full, GOOD + " ".repeat(1199 - GOOD.length()) + ";");
         spec.fails("the last position", IAE, () -> full.load(1200));
         due("1200", full.errorPosition(), 1200);
     }
@@ -337,7 +370,7 @@ public final class CallBoundaryTest {
 
     // ---- bags
 
-    private static void numbersOfBags() {
+    private static void time() {
         promise(7);
         says("Returns the time.");
         BaggageLoop x = Check.loaded(Airports.RICH_TEXT);
@@ -355,7 +388,9 @@ public final class CallBoundaryTest {
         due("undone", x.time(), 1);
         Check.load(x, Airports.NEXT_TEXT);
         due("another text", x.time(), 0);
+    }
 
+    private static void bags() {
         promise(8);
         says("Returns the number of bags, those that have not arrived yet included.");
         due("of the text", Check.loaded(Airports.RICH_TEXT).bags(), 7);
@@ -381,7 +416,7 @@ public final class CallBoundaryTest {
         Calls.call(HUNDRED.get(), name, 99);
     }
 
-    private static void ofBags() {
+    private static void stateOf() {
         promise(9);
         says("Returns the state of a bag (section 2).");
         inStates("stateOf", x -> x.stateOf(0), 0, 1, 2, 3, 4, 5, 6, 7, 8, 9, 10, 11, 12, 13);
@@ -389,7 +424,9 @@ public final class CallBoundaryTest {
         says("Returns 0 to 13.");
         due("0", Airports.inState(0).stateOf(0), 0);
         due("13", Airports.inState(13).stateOf(0), 13);
+    }
 
+    private static void flightOf() {
         promise(10);
         says("Returns the flight of a bag.");
         int[] flights = {0, 0, 0, 1, 1, 2, 2};
@@ -400,7 +437,9 @@ public final class CallBoundaryTest {
         says("Returns the number of the flight.");
         due("the last flight", EIGHT.get().flightOf(0), 7);
         due("rerouted", RICH.get().flightOf(5), 0);
+    }
 
+    private static void arrivalOf() {
         promise(11);
         says("Returns the time at which a bag arrives.");
         int[] arrivals = {0, 0, 0, 1, 1, 4, 4};
@@ -413,7 +452,9 @@ public final class CallBoundaryTest {
         last.addBags(999, 1, 0);
         due("the latest", last.arrivalOf(1), 10998);
         due("of the text", Check.loaded("loop 4 0 1" + QUICK + ";flight 2 0 9;bags 999 1 0").arrivalOf(0), 999);
+    }
 
+    private static void positionOf() {
         promise(12);
         says("Returns where a bag is on the loop.");
         for (int time = 2; time < 14; time++) {
@@ -422,7 +463,9 @@ public final class CallBoundaryTest {
         ofBag("positionOf");
         says("Returns the position; NONE if it is not on the loop.");
         inStates("positionOf", x -> x.positionOf(0), -1, -1, -1, -1, -1, -1, -1, -1, 0, -1, -1, -1, -1, -1);
+    }
 
+    private static void lapsOf() {
         promise(13);
         says("Returns the number of laps of a bag (section 4).");
         String round = "loop 4 3 0" + QUICK + ";flight 1 900 999;lane 2 1;bags 1 1 0;keep laps<3";
@@ -435,7 +478,9 @@ public final class CallBoundaryTest {
         inStates("lapsOf", x -> x.lapsOf(0), 0, 0, 0, 0, 0, 0, 0, 0, 0, 0, 0, 0, 0, 0);
         due("in a lane", at(round, 17).stateOf(0) * 100 + at(round, 17).lapsOf(0), 903);
         due("many", at("loop 4 3 0" + QUICK + ";flight 1 0 1;bags 1 1 0".replace("0 1;", "998 1999;"), 902).lapsOf(0), 225);
+    }
 
+    private static void levelOf() {
         promise(14);
         says("Returns the highest screening level that a bag has begun.");
         inStates("levelOf", x -> x.levelOf(0), 0, 0, 1, 1, 2, 2, 3, 1, 3, 3, 3, 1, 3, 3);
@@ -444,7 +489,9 @@ public final class CallBoundaryTest {
         due("none", Airports.inState(1).levelOf(0), 0);
         due("1", Airports.inState(2).levelOf(0), 1);
         due("3", Airports.inState(6).levelOf(0), 3);
+    }
 
+    private static void laneOf() {
         promise(15);
         says("Returns the lane in which a bag is stored.");
         BaggageLoop lanes = at("loop 10 0 5" + WIDE + ";flight 9 900 999;lane 1 1;lane 2 1;lane 3 1;lane 4 1;bags 1 5 0", 20);
@@ -459,7 +506,9 @@ public final class CallBoundaryTest {
             int lane = bag == 0 ? 0 : bag <= 20 ? 1 : bag == 21 ? 2 : bag == 22 ? 3 : -1;
             due("laneOf " + bag, FOUR_LANES.get().laneOf(bag), lane);
         }
+    }
 
+    private static void ticksTo() {
         promise(16);
         says("Returns after how many moves of the loop a bag stands at the position of its flight.");
         for (int flight = 0; flight < 4; flight++) {
@@ -478,7 +527,9 @@ public final class CallBoundaryTest {
         due("39", at(forty, 2).ticksTo(0), 39);
         due("0", at(forty, 41).ticksTo(0), 0);
         due("39 again", at(forty, 42).ticksTo(0), 39);
+    }
 
+    private static void finishedAt() {
         promise(17);
         says("Returns when a bag came into its state 10, 11, 12 or 13.");
         due("loaded", at("loop 10 0 5" + QUICK + ";flight 3 0 99;bags 1 1 0", 500).finishedAt(0), 5);
@@ -490,7 +541,9 @@ public final class CallBoundaryTest {
         ofBag("finishedAt");
         says("Returns the time; NONE if it is in another state.");
         inStates("finishedAt", x -> x.finishedAt(0), -1, -1, -1, -1, -1, -1, -1, -1, -1, -1, 41, 7, 11, 41);
+    }
 
+    private static void isHot() {
         promise(18);
         says("Tells whether a bag is hot now (section 3).");
         String hot = "loop 10 0 5" + QUICK.replace("hot 0", "hot 20") + ";flight 3 0 60;bags 999 1 0";
@@ -511,7 +564,9 @@ public final class CallBoundaryTest {
                 due("not hot in state " + state, x.isHot(0), false);
             }
         }
+    }
 
+    private static void isKept() {
         promise(19);
         says("Tells whether a keep line holds for a bag now (section 4).");
         String keep = "loop 10 0 5" + QUICK + ";flight 3 50 99;bags 1 1 0";
@@ -529,24 +584,18 @@ public final class CallBoundaryTest {
         }
     }
 
-    /** A bag in a state, in an airport with a keep line: the lane is not there, so that the line changes nothing else. */
+    /** Whether a keep line holds for bag 0, which is in a state. A bag that is kept is not stored: the line holds later. */
     private static boolean keptInState(int state, String keep) {
-        String way = "loop 10 0 5 level 1 1 A level 1 1 A level 1 1 B hot 0 seed 0;flight 3 OPEN CLOSE;flight 4 0 98;bags 2 1 0"
-                + ";shift 1 0 2 3;shift 2 0 5 6;shift 3 0 8 9;lane 2 9;" + keep;
-        int[] times = {1, 2, 4, 5, 7, 8, 10, 2, 11, 13, 14, 9999, 11, 14};
-        String text = state == 12 ? way.replace("A", "1000").replace("B", "1000") : way.replace("A", "1000").replace("B", "0");
-        text = text.replace("OPEN CLOSE", state == 10 || state == 13 ? "0 99" : state == 11 ? "0 1" : "900 999");
+        String line = state == 9 ? keep.replace("time<9999", "time>12") : keep;
+        String alarms = state == 12 ? "1 1 1000" : "1 1 0";
+        String times = state == 10 || state == 13 ? "0 99" : state == 11 ? "0 1" : "900 999";
+        String text = "loop 10 0 5 level 1 1 1000 level 1 1 1000 level " + alarms + " hot 0 seed 0;flight 3 " + times
+                + ";bags 2 1 0;shift 1 0 2 3;shift 2 0 5 6;shift 3 0 8 9;lane 1 9;" + line;
         if (state == 7) {
-            text = "loop 10 0 5" + WIDE + ";flight 3 0 99;flight 4 0 98;bags 1 1 0;bags 1 1 1;" + keep;
+            text = "loop 10 0 5" + WIDE + ";flight 3 0 99;flight 4 0 98;bags 1 1 0;bags 1 1 1;" + line;
         }
-        if (state == 9 && keep.contains("<")) {
-            // A bag that is kept is not stored; it is stored before, and kept from 12 on.
-            text = text.replace("time<9999", "time>13");
-            BaggageLoop x = at(text, 14);
-            due("stored", x.stateOf(0), 9);
-            return x.isKept(0);
-        }
-        BaggageLoop x = at(text, state == 11 ? 30 : times[state]);
+        int[] when = {1, 2, 4, 5, 7, 8, 10, 2, 11, 13, 14, 30, 11, 14};
+        BaggageLoop x = at(text, when[state]);
         if (state == 13) {
             x.offload(0);
         }
@@ -556,7 +605,7 @@ public final class CallBoundaryTest {
 
     // ---- the loop, the queues and the lanes
 
-    private static void ofLoop() {
+    private static void bagAt() {
         promise(20);
         says("Returns the bag at a position of the loop.");
         BaggageLoop x = at("loop 4 0 1" + WIDE + ";flight 2 900 999;bags 1 3 0", 4);
@@ -581,7 +630,9 @@ public final class CallBoundaryTest {
             spec.fails("one more than " + length, IOOBE, () -> y.bagAt(length));
             spec.fails("-1", IOOBE, () -> y.bagAt(-1));
         }
+    }
 
+    private static void loopLoad() {
         promise(21);
         says("Returns the number of bags on the loop.");
         String fills = "loop 4 0 1" + WIDE + ";flight 2 900 999;bags 1 6 0";
@@ -600,7 +651,7 @@ public final class CallBoundaryTest {
         return at("loop 10 0 1" + WIDE + ";flight 2 900 999;flight 3 900 998;bags 1 99 0;bags 1 1 1", 2);
     }
 
-    private static void queues() {
+    private static void waiting() {
         promise(22);
         says("Returns the number of bags in a queue.");
         inStates("waiting 1", x -> x.waiting(1), 0, 1, 0, 0, 0, 0, 0, 0, 0, 0, 0, 0, 0, 0);
@@ -617,7 +668,9 @@ public final class CallBoundaryTest {
         for (int wrong : new int[] {0, 5, 7, -1, MIN, MAX, MIN / 2, MIN + 1}) {
             spec.refused("waiting " + wrong, IAE, HUNDRED, x -> x.waiting(wrong));
         }
+    }
 
+    private static void queueAt() {
         promise(23);
         says("Returns a bag of a queue by its place (section 3).");
         for (int place = 0; place < 100; place++) {
@@ -688,7 +741,7 @@ public final class CallBoundaryTest {
         return all;
     }
 
-    private static void machines() {
+    private static void machineAt() {
         promise(24);
         says("Returns the bag in a screening machine.");
         BaggageLoop x = at("loop 10 0 5 level 4 9 0 level 4 1 0 level 4 1 0 hot 0 seed 0;flight 3 0 99;bags 1 3 0", 1);
@@ -711,7 +764,9 @@ public final class CallBoundaryTest {
             spec.fails("level 0", IOOBE, () -> y.machineAt(0, 0));
             spec.fails("level 4", IOOBE, () -> y.machineAt(4, 0));
         }
+    }
 
+    private static void brokenUntil() {
         promise(25);
         says("Returns how long a machine is broken.");
         BaggageLoop b = RICH.get();
@@ -750,7 +805,7 @@ public final class CallBoundaryTest {
         spec.refused("machine 1 of 1", IOOBE, NO_BAGS, y -> y.brokenUntil(3, 1));
     }
 
-    private static void stops() {
+    private static void stoppedUntil() {
         promise(26);
         says("Returns the time of the last tick in which the loop is stopped by the latest call of stopLoop that holds in this "
                 + "state (with 0, the time of that call).");
@@ -798,7 +853,9 @@ public final class CallBoundaryTest {
         due("no airport", new BaggageLoop().lanes(), 0);
         due("no lanes", NO_BAGS.get().lanes(), 0);
         due("4", FOUR_LANES.get().lanes(), 4);
+    }
 
+    private static void laneSize() {
         promise(28);
         says("Returns the number of bags in a lane.");
         int[] sizes = {1, 20, 1, 1};
@@ -814,7 +871,9 @@ public final class CallBoundaryTest {
         calls.needsAirport("laneSize");
         says(NO_LANE);
         spec.refused("no lanes", IOOBE, NO_BAGS, x -> x.laneSize(0));
+    }
 
+    private static void laneAt() {
         promise(29);
         says("Returns a bag in a lane.");
         due("lane 0", FOUR_LANES.get().laneAt(0, 0), 0);
@@ -848,7 +907,9 @@ public final class CallBoundaryTest {
         }
         spec.refused("an empty lane", IOOBE, Airports.FRESH, x -> x.laneAt(0, 0));
         spec.refused("no lanes", IOOBE, NO_BAGS, x -> x.laneAt(0, 0));
+    }
 
+    private static void keeps() {
         promise(30);
         says("Returns the number of keep lines.");
         due("1", RICH.get().keeps(), 1);
@@ -877,7 +938,9 @@ public final class CallBoundaryTest {
         due("no airport", new BaggageLoop().flights(), 0);
         due("1", NO_BAGS.get().flights(), 1);
         due("8", EIGHT.get().flights(), 8);
+    }
 
+    private static void flightState() {
         promise(32);
         says("Returns the state of a flight.");
         int[] states = {1, 1, 1, 1, 1, 1, 1, 0};
@@ -898,7 +961,9 @@ public final class CallBoundaryTest {
         due("delayed before CLOSE", delayed.flightState(0), 1);
         delayed.advance(1);
         due("delayed CLOSE", delayed.flightState(0), 2);
+    }
 
+    private static void openOf() {
         promise(33);
         says("Returns when a flight opens.");
         int[] opens = {22, 30, 0};
@@ -910,7 +975,9 @@ public final class CallBoundaryTest {
         due("0", NO_BAGS.get().openOf(0), 0);
         due("999", EIGHT.get().openOf(7), 999);
         due("delayed", RICH.get().openOf(1), 33);
+    }
 
+    private static void closeOf() {
         promise(34);
         says("Returns when a flight closes.");
         int[] closes = {60, 31, 40};
@@ -924,7 +991,7 @@ public final class CallBoundaryTest {
         due("delayed", RICH.get().closeOf(1), 34);
     }
 
-    private static void countsOfFlights() {
+    private static void countOf() {
         promise(35);
         says("Returns the number of bags of a flight in a state.");
         for (int state = 0; state < 14; state++) {
@@ -950,7 +1017,9 @@ public final class CallBoundaryTest {
         says("Throws `IllegalArgumentException` if state is out of range");
         spec.refused("-1", IAE, HUNDRED, x -> x.countOf(0, -1));
         spec.refused("14", IAE, HUNDRED, x -> x.countOf(0, 14));
+    }
 
+    private static void missing() {
         promise(36);
         says("Returns the number of bags of a flight that are in none of the states 10 to 13.");
         inStates("missing", x -> x.missing(0), 1, 1, 1, 1, 1, 1, 1, 1, 1, 1, 0, 0, 0, 0);
@@ -959,7 +1028,9 @@ public final class CallBoundaryTest {
         due("no bags", NO_BAGS.get().missing(0), 0);
         due("100", HUNDRED.get().missing(0), 100);
         due("of flight 7", EIGHT.get().missing(7) * 10 + EIGHT.get().missing(0), 10);
+    }
 
+    private static void loadedShare() {
         promise(37);
         says("Returns which part of the bags of a flight is loaded.");
         inStates("loadedShare", x -> x.loadedShare(0), 0f, 0f, 0f, 0f, 0f, 0f, 0f, 0f, 0f, 0f, 1f, 0f, 0f, 0f);
@@ -1069,7 +1140,9 @@ public final class CallBoundaryTest {
         BaggageLoop more = FULL_LOG.get();
         more.offload(99);
         due("not more", more.events(), 300);
+    }
 
+    private static void event() {
         promise(41);
         says("Returns a part of an event (section 5).");
         int[][] want = {{4, 9, 3, 1}, {6, 9, 4, 1}, {9, 9, 0, 0}, {12, 9, 2, 0}, {13, 10, 6, 2}};
@@ -1159,7 +1232,9 @@ public final class CallBoundaryTest {
         due("31", EIGHT.get().report(), 31);
         due("9", at(many.replace("BAGS", "100").replace("CLOSE", "1"), 300).report(), 9);
         calls.needsAirport("report");
+    }
 
+    private static void reportByte() {
         promise(43);
         says("Returns a byte of the text that report wrote last.");
         BaggageLoop r = NO_BAGS.get();
@@ -1204,16 +1279,18 @@ public final class CallBoundaryTest {
         return Check.text(x::map, x::mapByte);
     }
 
+    /** Flight k has one bag, which is at ENTRY at k + 2. */
+    private static final String LETTERS = "loop 20 0 10" + WIDE + ";flight 1 900 999;flight 2 900 999;flight 3 900 999;flight 4 900 999"
+            + ";flight 6 900 999;flight 7 900 999;flight 8 900 999;flight 9 900 999;bags 1 1 0;bags 2 1 1;bags 3 1 2"
+            + ";bags 4 1 3;bags 5 1 4;bags 6 1 5;bags 7 1 6;bags 8 1 7";
+
     private static void map() {
         promise(44);
         says("Writes a map of the loop as a text of LENGTH bytes, which replaces the map that was written before: for each "
                 + "position a dot if it is free, otherwise the letter of the flight of its bag, A for flight 0 and so on.");
         due("free", mapOf(NO_BAGS.get()), "....");
         due("full", mapOf(at("loop 4 0 1" + WIDE + ";flight 2 900 999;bags 1 6 0", 9)), "AAAA");
-        String letters = "loop 20 0 10" + WIDE + ";flight 1 900 999;flight 2 900 999;flight 3 900 999;flight 4 900 999"
-                + ";flight 6 900 999;flight 7 900 999;flight 8 900 999;flight 9 900 999;bags 1 1 0;bags 2 1 1;bags 3 1 2"
-                + ";bags 4 1 3;bags 5 1 4;bags 6 1 5;bags 7 1 6;bags 8 1 7";
-        BaggageLoop x = at(letters, 9);
+        BaggageLoop x = at(LETTERS, 9);
         due("letters", mapOf(x), "HGFEDCBA............");
         x.reroute(0, 7);
         due("the flight now", mapOf(x), "HGFEDCBH............");
@@ -1225,10 +1302,12 @@ public final class CallBoundaryTest {
             due("LENGTH " + length, Check.loaded("loop " + length + " 0 1" + QUICK + ";flight 2 0 9").map(), length);
         }
         calls.needsAirport("map");
+    }
 
+    private static void mapByte() {
         promise(45);
         says("Returns a byte of the map that was written last.");
-        BaggageLoop y = at(letters, 8);
+        BaggageLoop y = at(LETTERS, 8);
         y.map();
         y.advance(1);
         due("it is not written again", y.mapByte(7), (int) '.');
@@ -1298,7 +1377,9 @@ public final class CallBoundaryTest {
         due("44", EIGHT.get().timetable(), 44);
         longestTimetable();
         calls.needsAirport("timetable");
+    }
 
+    private static void timetableByte() {
         promise(47);
         says("Returns a byte of the timetable that was written last.");
         BaggageLoop t = NO_BAGS.get();

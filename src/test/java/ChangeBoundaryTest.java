@@ -48,6 +48,7 @@ public final class ChangeBoundaryTest {
         stopLoop();
         reroute();
         undo();
+        undoable();
         save();
         restore();
         List<String> sections = new ArrayList<>(List.of("7"));
@@ -983,7 +984,9 @@ public final class ChangeBoundaryTest {
         spec.refused("a failed load", ISE, Airports.FAILED, z -> z.undo());
         spec.refused("no change", ISE, Airports.FRESH, z -> z.undo());
         spec.refused("restored", ISE, SAVED, z -> z.undo());
+    }
 
+    private static void undoable() {
         promise(63);
         says("Returns the number of changes that can be undone.");
         BaggageLoop z = Check.loaded(Airports.RICH_TEXT);

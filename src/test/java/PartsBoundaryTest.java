@@ -3,10 +3,8 @@ import java.math.BigInteger;
 /** The sections 1 to 5 of the document, sentence by sentence: the parts, the states, the queues, a tick, the events. */
 public final class PartsBoundaryTest {
     private static final Class<IndexOutOfBoundsException> IOOBE = Check.IOOBE;
-    /** A bag that arrives at 1 is in a machine at 1, and at ENTRY at 2. */
-    private static final String QUICK = " level 1 1 0 level 1 1 0 level 1 1 0 hot 0 seed 0";
-    /** The same with four machines, so that many bags wait for the loop together. */
-    private static final String WIDE = " level 4 1 0 level 1 1 0 level 1 1 0 hot 0 seed 0";
+    private static final String QUICK = Airports.QUICK;
+    private static final String WIDE = Airports.WIDE;
 
     private static final Spec spec = new Spec();
 
@@ -42,11 +40,7 @@ public final class PartsBoundaryTest {
     }
 
     private static BaggageLoop at(String text, int time) {
-        BaggageLoop x = Check.loaded(text);
-        for (int left = time; left > 0; left -= 500) {
-            x.advance(Math.min(left, 500));
-        }
-        return x;
+        return Airports.at(text, time);
     }
 
     /** The state of bag 0 at some times: pairs of a time and a state. */
@@ -637,14 +631,14 @@ public final class PartsBoundaryTest {
         for (int n : new int[] {1, 2, 999}) {
             BaggageLoop x = at(one, 2);
             x.breakMachine(1, 0, n);
-            advance(x, n);
+            Airports.advance(x, n);
             due("(e) is left out for " + n, x.stateOf(0), 2);
             due("the bag stays", x.machineAt(1, 0), 0);
             x.advance(1);
             due("(e) after " + n, x.stateOf(0), 8);
             BaggageLoop y = Check.loaded(one);
             y.breakMachine(1, 0, n);
-            advance(y, n);
+            Airports.advance(y, n);
             due("(f) is left out for " + n, y.stateOf(0), 1);
             y.advance(1);
             due("(f) after " + n, y.stateOf(0), 2);
@@ -699,12 +693,6 @@ public final class PartsBoundaryTest {
         blocked.block(0, false);
         blocked.advance(1);
         due("stored where it stands", blocked.stateOf(0), 9);
-    }
-
-    private static void advance(BaggageLoop x, int ticks) {
-        for (int left = ticks; left > 0; left -= 500) {
-            x.advance(Math.min(left, 500));
-        }
     }
 
     private static void shifts() {
