@@ -18,6 +18,7 @@ public final class FaceTest {
     public static void main(String[] args) throws Exception {
         Path document = Path.of("../shared/DOC.md");
         members(Files.readString(document));
+        exceptions(new Document());
         source(Files.readString(Path.of("src/main/java/BaggageLoop.java")));
         check.end();
     }
@@ -52,6 +53,23 @@ public final class FaceTest {
         check.due("constructor", constructors[0].getModifiers() + constructors[0].getParameterCount(), Modifier.PUBLIC);
         check.due("the class", BaggageLoop.class.getModifiers(), Modifier.PUBLIC | Modifier.FINAL);
         otherNames(BaggageLoop.class, publicNames);
+    }
+
+    /** What each method declares, in the order of the document, and that each promise tells of all that its face lists. */
+    private static void exceptions(Document document) {
+        int declared = 0;
+        for (Method m : BaggageLoop.class.getDeclaredMethods()) {
+            if (Modifier.isPublic(m.getModifiers())) {
+                List<String> got = new ArrayList<>();
+                for (Class<?> type : m.getExceptionTypes()) {
+                    got.add(type.getSimpleName());
+                }
+                check.due("the exceptions of " + m.getName(), got, document.exceptions(m.getName()));
+                declared += got.size();
+            }
+        }
+        check.due("all exceptions", declared, 105);
+        check.due("NONE", BaggageLoop.NONE, -1);
     }
 
     private static void otherNames(Class<?> type, Set<String> publicNames) {

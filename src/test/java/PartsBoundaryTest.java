@@ -1,6 +1,6 @@
 import java.math.BigInteger;
 
-/** The sections 1 to 5 of the document, sentence by sentence: the parts, the states, the queues, a tick, the events. */
+/** What the document says up to section 5, sentence by sentence: the parts, the states, the queues, a tick, the events. */
 public final class PartsBoundaryTest {
     private static final Class<IndexOutOfBoundsException> IOOBE = Check.IOOBE;
     private static final String QUICK = Airports.QUICK;
@@ -9,6 +9,7 @@ public final class PartsBoundaryTest {
     private static final Spec spec = new Spec();
 
     public static void main(String[] args) {
+        whatItIs();
         loop();
         numbering();
         machines();
@@ -28,7 +29,7 @@ public final class PartsBoundaryTest {
         shifts();
         keepLines();
         events();
-        spec.end("1", "2", "3", "4", "5");
+        spec.end("What it is", "Description", "1", "2", "3", "4", "5");
     }
 
     private static void says(String words) {
@@ -48,6 +49,36 @@ public final class PartsBoundaryTest {
         for (int i = 0; i < timesAndStates.length; i += 2) {
             due(what + " at " + timesAndStates[i], at(text, timesAndStates[i]).stateOf(0), timesAndStates[i + 1]);
         }
+    }
+
+    private static void whatItIs() {
+        spec.of("What it is");
+        says("A simulator of the baggage system of an airport.");
+        String text = "loop 10 0 5" + QUICK + ";flight 3 10 99;lane 2 1;bags 1 1 0";
+        due("a bag is loaded", at(text, 11).stateOf(0), 10);
+        says("An object is used for at most 512 calls after it has been made; what later calls answer is free.");
+        BaggageLoop x = new BaggageLoop();
+        Check.fill(x, text);
+        // The appends, this call of buffered, the load and the last call are made as well.
+        int delays = 512 - x.buffered() / 20 - 3;
+        due("load", x.load(text.length()), 1);
+        for (int i = 0; i < delays; i++) {
+            x.delay(0, 999);
+        }
+        due("call 512", x.closeOf(0), 99 + 999 * delays);
+
+        spec.of("Description");
+        says("Bags are screened in up to three levels, go round on a loop, wait in storage lanes until their flights open, and "
+                + "are loaded, or miss their flights.");
+        int[] way = {1, 2, 2, 8, 3, 8, 4, 9, 9, 9, 10, 8, 11, 10};
+        for (int i = 0; i < way.length; i += 2) {
+            due("at " + way[i], at(text, way[i]).stateOf(0), way[i + 1]);
+        }
+        due("missed", at(text.replace("10 99", "0 1"), 7).stateOf(0), 11);
+        says("Hot bags, whose flights close soon, go first.");
+        due("the bag of flight 1", at(text.replace("lane 2 1", "flight 4 10 98") + ";bags 1 1 1", 1).machineAt(1, 0), 1);
+        says("The class parses an airport, simulates it tick by tick, and answers what-if questions.");
+        due("in 11 ticks", Check.loaded(text).timeToClear(99), 11);
     }
 
     // ---- 1. The parts

@@ -9,9 +9,13 @@ import java.util.Map;
 import java.util.regex.Matcher;
 import java.util.regex.Pattern;
 
-/** DOC.md by sections ("1" to "7" and "Promise 1" to "Promise 65"), and which of its words tests have quoted. */
+/**
+ * DOC.md by sections ("What it is", "Description", "1" to "7" and "Promise 1" to "Promise 65"), and which of its words
+ * tests have quoted.
+ */
 final class Document {
-    private static final Pattern HEADING = Pattern.compile("(?m)^(?:## (Promise \\d+): .*|([1-7])\\. [A-Z].*|## .*)$");
+    private static final Pattern HEADING = Pattern.compile("(?m)^(?:## (Promise \\d+): .*|([1-7])\\. [A-Z].*"
+            + "|## (What it is|Description)|## .*)$");
 
     private final String face;
     private final Map<String, String> sections = new LinkedHashMap<>();
@@ -20,13 +24,15 @@ final class Document {
     Document() {
         String all = read();
         face = all.substring(all.indexOf("```java"), all.indexOf("}\n```"));
-        String body = all.substring(all.indexOf("## Description"));
-        Matcher heading = HEADING.matcher(body);
+        Matcher heading = HEADING.matcher(all);
         String section = null;
         int start = 0;
         while (heading.find()) {
-            addSection(section, body.substring(start, heading.start()));
-            section = heading.group(1) != null ? heading.group(1) : heading.group(2);
+            addSection(section, all.substring(start, heading.start()));
+            section = null;
+            for (int group = 1; group <= heading.groupCount() && section == null; group++) {
+                section = heading.group(group);
+            }
             start = heading.end();
         }
     }
