@@ -196,6 +196,7 @@ public final class CallBoundaryTest {
             replaces(Airports.BUSY, next);
             replaces(USED, next);
         }
+        leftovers();
         due("time", y.time(), 0);
         due("undoable", y.undoable(), 0);
         spec.fails("undo", ISE, () -> y.undo());
@@ -260,6 +261,51 @@ public final class CallBoundaryTest {
             Check.load(afterNext, text);
             due("nothing of the one before is left", withoutTexts(probe.look(afterNext)), want);
         }
+    }
+
+    /** Lanes, lines and bags of an airport that was there two loads before, which the latest one does not have. */
+    private static void leftovers() {
+        String plain = "loop 10 0 5" + WIDE + ";flight 3 60 99;bags 1 3 0";
+        String kept = plain + ";lane 2 5;keep time=999";
+        for (String old : List.of(plain + ";lane 1 9;lane 2 9;lane 4 9;lane 6 9", plain + ";lane 2 9;lane 1 9",
+                plain + ";shift 1 0 0 1999;shift 1 0 0 1999;shift 2 0 0 1999;shift 3 0 0 1999",
+                plain + ";keep time<9999;keep time<9999;keep time<9999", plain + ";lane 2 9;keep time>5000;keep time<9999",
+                plain.replace("60 99", "0 99").replace("bags 1 3", "bags 1 100"),
+                plain.replace("60 99", "0 1").replace("bags 1 3", "bags 1 100"),
+                plain.replace("bags 1 3", "bags 1 100") + ";shift 1 0 0 1999",
+                plain.replace("60 99", "0 99").replace("bags 1 3", "bags 0 100"),
+                plain.replace("bags 1 3", "bags 0 100") + ";shift 1 0 0 1999")) {
+            for (int time : new int[] {0, 2, 30, 200}) {
+                for (String text : List.of(plain, kept, plain + ";lane 7 1;shift 3 3 0 1", kept + ";keep time=998",
+                        plain.replace(WIDE, QUICK))) {
+                    BaggageLoop x = at(old, time);
+                    Check.load(x, Airports.NEXT_TEXT);
+                    Check.load(x, text);
+                    BaggageLoop fresh = Check.loaded(text);
+                    for (int ticks : new int[] {1, 1, 1, 2, 20, 30, 30, 60}) {
+                        x.advance(ticks);
+                        fresh.advance(ticks);
+                        due("after " + old, bagsAndFlights(x), bagsAndFlights(fresh));
+                    }
+                }
+            }
+        }
+    }
+
+    private static String bagsAndFlights(BaggageLoop x) {
+        StringBuilder text = new StringBuilder(timetableOf(x) + " " + reportOf(x) + " " + mapOf(x));
+        for (int bag = 0; bag < x.bags(); bag++) {
+            text.append(' ').append(x.stateOf(bag)).append('/').append(x.isKept(bag)).append('/').append(x.laneOf(bag));
+        }
+        for (int percent = 1; percent <= 100; percent += 33) {
+            text.append(' ').append(x.percentile(0, percent));
+        }
+        for (int queue = 1; queue <= 4; queue++) {
+            for (int place = 0; place < x.waiting(queue); place++) {
+                text.append(' ').append(x.queueAt(queue, place));
+            }
+        }
+        return text.toString();
     }
 
     private static void emptyBuffer(BaggageLoop x) {

@@ -423,6 +423,7 @@ public final class ChangeBoundaryTest {
         due("nothing is short", Check.loaded(THREE).bestDelay(0, 200), 0);
         due("nothing helps", Check.loaded(SHORT.replace("bags 1 3", "bags 60 3")).bestDelay(0, 200), 0);
         otherFlights();
+        hundredShort();
         says("- `flight`: number of the flight");
         calls.arguments(RICH, "bestDelay", Calls.index(3), Calls.number(1, 200));
         says("- `n`: 1 to 200");
@@ -450,6 +451,21 @@ public final class ChangeBoundaryTest {
     /** A bag that is T ticks in the machine, and a flight at 3 that closes at 1. */
     private static String slow(int ticks) {
         return "loop 10 0 5 level 1 " + ticks + " 0 level 1 1 0 level 1 1 0 hot 0 seed 0;flight 3 0 1;bags 1 1 0";
+    }
+
+    /** All of 100 bags are short without a delay, and one less for each tick of a delay beyond 4. */
+    private static void hundredShort() {
+        // Bag k is at its flight at 5 + k, which closes at 1 + the delay: with 5 bag 0 is loaded, with 50 the bags 0 to 45.
+        String text = "loop 10 0 5" + WIDE + ";flight 3 0 1;bags 1 100 0";
+        due("all are short", Check.loaded(text).shortIn(200), 100);
+        BaggageLoop x = Check.loaded(text);
+        x.delay(0, 5);
+        due("99 are short with 5", x.shortIn(200), 99);
+        due("50 is the best", Check.loaded(text).bestDelay(0, 200), 50);
+        // Bag 0 alone has this flight and is at it at 5; the others come later and are short whatever its delay is.
+        String one = "loop 10 0 5" + WIDE + ";flight 3 0 1;flight 4 0 1;bags 1 1 0;bags 20 99 1";
+        due("all are short", Check.loaded(one).shortIn(200), 100);
+        due("99 in place of 100", Check.loaded(one).bestDelay(0, 200), 5);
     }
 
     /** With a delay of flight 0 its bag does not go first any more: the bag of flight 1 is then in time. */

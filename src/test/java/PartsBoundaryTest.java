@@ -792,6 +792,17 @@ public final class PartsBoundaryTest {
         due("bag 0 goes on", at(ofTwo, 4).stateOf(0), 8);
         due("bag 1 at 5", at(ofTwo, 5).isKept(1), true);
 
+        for (int lines = 1; lines <= 3; lines++) {
+            for (int holds = 0; holds <= lines; holds++) {
+                StringBuilder text = new StringBuilder(one);
+                for (int line = 1; line <= lines; line++) {
+                    text.append(line == holds ? ";keep time=4" : ";keep time=5 and load<99");
+                }
+                due("line " + holds + " of " + lines + " holds", at(text.toString(), 4).isKept(0), holds > 0);
+                due("line " + holds + " of " + lines + " keeps it", at(text.toString(), 4).stateOf(0), holds > 0 ? 8 : 9);
+            }
+        }
+
         says("In a test, wait is OPEN of its flight minus the time, but at least 0;");
         value(one, 0, "wait", 30);
         value(one, 29, "wait", 1);
