@@ -19,6 +19,7 @@ public final class FaceTest {
         Path document = Path.of("../shared/DOC.md");
         members(Files.readString(document));
         exceptions(new Document());
+        promises(Files.readString(document));
         source(Files.readString(Path.of("src/main/java/BaggageLoop.java")));
         check.end();
     }
@@ -70,6 +71,23 @@ public final class FaceTest {
         }
         check.due("all exceptions", declared, 105);
         check.due("NONE", BaggageLoop.NONE, -1);
+    }
+
+    /** Each promise bears the name and the signature of the face, in its order, so that a test by its number means it. */
+    private static void promises(String document) {
+        String face = document.substring(document.indexOf("public BaggageLoop()"), document.indexOf("}\n```"));
+        String[] signatures = face.split(";\\s*");
+        Matcher promise = Pattern.compile("## Promise (\\d+): (.*)\n\n`(.*)`\n").matcher(document);
+        int number = 0;
+        while (promise.find()) {
+            number++;
+            check.due("the number of " + promise.group(2), promise.group(1), Integer.toString(number));
+            check.due("the signature of promise " + number, "public " + promise.group(3), signatures[number - 1]);
+            String name = promise.group(3).replaceAll("\\(.*", "").replaceAll(".* ", "");
+            check.due("the name of promise " + number, promise.group(2), number == 1 ? "A new object" : name);
+        }
+        check.due("promises", number, 65);
+        check.due("signatures", signatures.length, 65);
     }
 
     private static void otherNames(Class<?> type, Set<String> publicNames) {

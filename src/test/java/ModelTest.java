@@ -15,6 +15,7 @@ public final class ModelTest {
             "breakMachine", "stopLoop", "reroute", "undo", "save", "restore", "advance", "advance", "advance");
 
     private static final Check check = new Check();
+    private static final int[] parseErrors = new int[7];
     private static final List<Method> methods = new ArrayList<>();
 
     public static void main(String[] args) throws Exception {
@@ -30,6 +31,9 @@ public final class ModelTest {
         for (int run = 0; run < 3000; run++) {
             oneParse(run);
         }
+        for (int code = 0; code < parseErrors.length; code++) {
+            check.due("texts with the parse error " + code, parseErrors[code] >= 20, true);
+        }
         check.end();
     }
 
@@ -41,7 +45,7 @@ public final class ModelTest {
         int calls = 0;
         while (calls < CALLS) {
             if (calls == 0 || random.nextInt(150) == 0) {
-                calls += loadBoth("run " + seed, x, y, random.nextInt(4) == 0 ? texts.bad() : texts.good());
+                calls += loadBoth("run " + seed, x, y, anyText(random, texts));
             }
             Method m = methods.get(random.nextInt(methods.size()));
             if (random.nextInt(4) == 0) {
@@ -53,11 +57,25 @@ public final class ModelTest {
         }
     }
 
+    private static String anyText(Random random, RandomText texts) {
+        switch (random.nextInt(8)) {
+            case 0:
+                return texts.bad();
+            case 1:
+                return texts.nearlyGood();
+            case 2, 3, 4:
+                return texts.storing();
+            default:
+                return texts.good();
+        }
+    }
+
     private static void oneParse(int seed) throws Exception {
         RandomText texts = new RandomText(new Random(100000 + seed));
         BaggageLoop x = new BaggageLoop();
         Model y = new Model();
-        loadBoth("parse " + seed, x, y, texts.bad());
+        loadBoth("parse " + seed, x, y, seed % 2 == 0 ? texts.bad() : texts.nearlyGood());
+        parseErrors[x.parseError()]++;
     }
 
     private static int loadBoth(String what, BaggageLoop x, Model y, String text) throws Exception {

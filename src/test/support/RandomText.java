@@ -1,4 +1,7 @@
+import java.util.List;
 import java.util.Random;
+import java.util.regex.MatchResult;
+import java.util.regex.Pattern;
 
 /** Texts of airports: good ones, and good ones with something wrong. */
 final class RandomText {
@@ -54,6 +57,34 @@ final class RandomText {
         return text.toString();
     }
 
+    /** Quick screening, late flights and lanes: most bags are stored, some of them again after a reroute. */
+    String storing() {
+        int length = pickOf(6, 8, 10, 16, 40);
+        int[] places = random.ints(0, length).distinct().limit(length).toArray();
+        StringBuilder text = new StringBuilder("loop " + length + " " + places[0] + " " + places[1]);
+        for (int level = 1; level <= 3; level++) {
+            text.append(" level " + pick(2, 4) + " 1 " + pickOf(0, 0, 50));
+        }
+        text.append(" hot " + pickOf(0, 10, 100) + " seed " + pick(0, 99999));
+        int lanes = pick(1, Math.min(4, length - 4));
+        int flights = pick(2, Math.min(8, length - 2 - lanes));
+        int late = pickOf(20, 60, 200, 900);
+        for (int f = 0; f < flights; f++) {
+            int open = pick(late / 2, late + 10 * f);
+            text.append(";flight " + places[2 + f] + " " + open + " " + (open + pickOf(pick(1, 30), pick(50, 900))));
+        }
+        for (int l = 0; l < lanes; l++) {
+            text.append(";lane " + places[2 + flights + l] + " " + pickOf(1, 2, 5, 20));
+        }
+        for (int b = pick(1, 5); b > 0; b--) {
+            text.append(";bags " + pick(0, 60) + " " + pick(1, 20) + " " + pick(0, flights - 1));
+        }
+        for (int k = pickOf(0, 0, 1, 3); k > 0; k--) {
+            text.append(";keep " + test(0));
+        }
+        return text.toString();
+    }
+
     private String test(int depth) {
         StringBuilder text = new StringBuilder(unit(depth));
         for (int more = pickOf(0, 0, 1, 2); more > 0; more--) {
@@ -72,6 +103,38 @@ final class RandomText {
         }
         return pickOf("wait", "laps", "level", "load", "time") + pickOf("<", ">", "=", " < ", "> ")
                 + pickOf(0, 1, 2, 3, 10, 40);
+    }
+
+    /** A good text with one thing changed that the grammar allows: a number, more lines, fewer lines, or a deep test. */
+    String nearlyGood() {
+        String text = good();
+        switch (pick(0, 3)) {
+            case 0:
+                return withOtherNumber(text);
+            case 1:
+                for (int more = pick(1, 8); more > 0; more--) {
+                    text += pickOf(";flight " + pick(0, 9) + " 1 2", ";lane " + pick(0, 9) + " 3", ";bags 0 30 0",
+                            ";shift 1 1 1 1", ";keep load<3");
+                }
+                return text;
+            case 2:
+                return text.replaceAll(pickOf(";flight[^;]*", ";[^f][^;]*", ";flight.*"), "");
+            default:
+                int deep = pick(7, 11);
+                String signs = pickOf("not ", "(", "not (");
+                return text + ";keep " + signs.repeat(deep) + "wait<3"
+                        + (signs.endsWith("(") ? ")".repeat(deep) : "") + pickOf("", " or load>2", " and", ")");
+        }
+    }
+
+    private String withOtherNumber(String text) {
+        List<MatchResult> numbers = Pattern.compile("\\d+").matcher(text).results().toList();
+        MatchResult number = numbers.get(random.nextInt(numbers.size()));
+        int value = Integer.parseInt(number.group());
+        int earlier = Integer.parseInt(numbers.get(random.nextInt(3)).group());
+        int other = pickOf(value + 1, Math.max(value - 1, 0), earlier, 0, 4, 5, 20, 21, 41, 99, 100, 101, 999, 1000, 1001,
+                1999, 2000, 9999, 10000, 99999);
+        return text.substring(0, number.start()) + other + text.substring(number.end());
     }
 
     String bad() {
