@@ -510,6 +510,13 @@ public final class PartsBoundaryTest {
                 + ";bags 2 1 1;bags 3 1 2";
         due("before the last one", at(three.replace("OPEN", "59"), 6).stateOf(2), 8);
         due("with the last one", at(three.replace("OPEN", "60"), 6).stateOf(2), 9);
+        // An empty lane takes any bag, whatever the last one of the full lane before it waits for.
+        BaggageLoop full = at("loop 10 0 9" + WIDE + ";flight 7 500 600;flight 8 400 450;lane 2 20;lane 4 1;bags 1 20 0"
+                + ";bags 30 1 1", 34);
+        due("the lane before is full", full.laneSize(0), 20);
+        due("and was passed", full.positionOf(20), 3);
+        full.advance(1);
+        due("the empty lane takes the bag", full.laneOf(20), 1);
         // A lane that is empty again takes what it refused before.
         BaggageLoop again = at(two.replace("CAPACITY", "2").replace("OPEN", "49"), 5);
         again.reroute(0, 1);
